@@ -286,48 +286,31 @@ public final class AWordStuck {
         Sheet hours = sheets[sheet];
         if (hours.isMissing()) return NOTHING;
         if (hours.size != GAPS) return BAD;
-        if (what == 0) return firstOtherwise(hours, man, NONE, NONE, NONE);
-        if (what == 1) return kindsAsTold(hours, man);
-        if (what == 2) return numbersAsTold(hours, man);
-        if (what == 3) return textsAsTold(hours, man);
+        if (what == 0) return firstOtherwise(hours, man, 0, 0);
+        if (what <= 3) return allAsTold(hours, man, what);
         int gap = what % 10;
         bite.look(truth, man, gap);
         if (bite.names[WORD] == NONE) return what >= 30 ? NONE : 0;
         return what < 20 ? wordsAsTold(hours.row[gap]) : agesAsTold(hours.row[gap], what >= 30);
     }
 
-    /** The first GAP that is not as told, were one of that kind, number and text: NONE leaves what is. */
-    private int firstOtherwise(Sheet hours, int man, int kind, int number, int text) {
+    /** The first GAP that is not as told, were one's KIND (what 1), NUMBER (2), the TEXT (3) another. */
+    private int firstOtherwise(Sheet hours, int man, int what, int other) {
         for (int gap = 0; gap < GAPS; gap++) {
             bite.look(truth, man, gap);
-            if (kind != NONE) bite.kind = kind;
-            if (number != NONE) bite.names[NUMBER] = number;
-            if (within(text, textCount)) bite.text = texts[text];
+            if (what == 1) bite.kind = other;
+            if (what == 2) bite.names[NUMBER] = other;
+            if (what == 3 && within(other, textCount)) bite.text = texts[other];
             if (bite.goesOffIn(THOUGHT_HOURS) != hours.row[gap]) return gap;
         }
         return NONE;
     }
 
-    private int kindsAsTold(Sheet hours, int man) {
+    private int allAsTold(Sheet hours, int man, int what) {
+        int many = what == 1 ? KINDS : what == 2 ? NUMBERS : textCount;
         int bits = 0;
-        for (int kind = 0; kind < KINDS; kind++) {
-            if (firstOtherwise(hours, man, kind, NONE, NONE) == NONE) bits |= 1 << kind;
-        }
-        return bits;
-    }
-
-    private int numbersAsTold(Sheet hours, int man) {
-        int bits = 0;
-        for (int number = 0; number < NUMBERS; number++) {
-            if (firstOtherwise(hours, man, NONE, number, NONE) == NONE) bits |= 1 << number;
-        }
-        return bits;
-    }
-
-    private int textsAsTold(Sheet hours, int man) {
-        int bits = 0;
-        for (int text = 0; text < textCount; text++) {
-            if (firstOtherwise(hours, man, NONE, NONE, text) == NONE) bits |= 1 << text;
+        for (int i = 0; i < many; i++) {
+            if (firstOtherwise(hours, man, what, i) == NONE) bits |= 1 << i;
         }
         return bits;
     }
