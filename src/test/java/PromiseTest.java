@@ -35,7 +35,7 @@ public final class PromiseTest {
         feed(); text(); grammar(); faults(); open(); clamps(); names(); force();
         say(); takes(); floss(); kiss(); live(); holds(); bears();
         run(); off(); foods(); best(); few(); kissing(); church(); plan(); planWrong();
-        tells(); toldBack(); tellsWrong(); film(); drawn(); chance(); image(); back(); count();
+        tells(); toldBack(); tellsWrong(); film(); drawn(); chance(); image(); back(); five(); count();
         sheet(); cell(); copy(); people(); taken();
         Check.end();
     }
@@ -326,9 +326,9 @@ public final class PromiseTest {
         x.fill(0, 9, 1, 50);
         x.fill(0, 8, 1, 50);
         due("7 sticks: 8+9+30+4+0+2", x.say(0, 8, 9), 5);
-        AWordStuck w = withRule("sticks gap;lasts 0;shames 0;", MAN);
+        AWordStuck w = withRule("sticks gap+5;lasts 0;shames 0;", MAN);
         w.fill(0, 9, 1, 1);
-        due("7 gap of sticks", w.say(0, 0, 0), 0);
+        due("7 gap of sticks", w.say(0, 0, 0), 5);
         AWordStuck y = withRule("sticks 0;lasts word+food*9+hour+number+gap*3+stuck;shames word*2+food*9+hour*3+number+gap+stuck*5;", MAN);
         y.set(0, 0, 20);
         y.fill(0, 7, 3, 12);
@@ -663,6 +663,7 @@ public final class PromiseTest {
         due("18 shame then", y.kissing(4, 1), 10);
         y.fill(0, 2, 0, 0);
         due("18 what goes off later does not count", y.kissing(4, 1), 10);
+        due("18 of like ones the first", y.kissing(4, 0), 1);
         due("18 0 hours, not less", y.kissing(5, 1), 30);
         y.fill(0, 2, NONE, 0);
         due("18 no use", y.kissing(60, 0), NONE);
@@ -987,6 +988,32 @@ public final class PromiseTest {
         y.back();
         due("26 word", y.told(1, 13), 8);
         due("26 its hours", y.told(1, 23), 1);
+    }
+
+    private static void five() { // 18, 20, 23, 25, 26
+        AWordStuck x = of(MAN, MAN, MAN, MAN, MAN);
+        x.fill(4, 0, 0, 0);
+        due("25 of five", x.image(), 5);
+        due("18 no CHILD among five", x.kissing(60, 0), NONE);
+        row(x, 0, 0, 2, 4, 3, 0);
+        due("20 with five", x.plan(0, 1), 1);
+        due("23 with five", x.drawn(4, 0, 0), 0);
+        due("26 of five", x.back(), 5);
+        AWordStuck y = of(MAN);
+        y.fill(0, 3, 0, 0);
+        y.image();
+        y.man(CHILD, 0);
+        y.man(OLD, 0);
+        y.fill(2, 4, 0, 0);
+        due("18 a CHILD came", y.kissing(60, 0), 1);
+        due("13 an OLD's word", y.run(60, 1), 2);
+        y.back();
+        due("18 and is gone", y.kissing(60, 0), NONE);
+        due("13 with his words", y.run(60, 1), 1);
+        due("27 with his words", y.count(1), 1);
+        due("3 the next one", y.man(MAN, 0), 1);
+        due("3 the next one", y.man(MAN, 0), 2);
+        due("3 nothing is stuck in it", y.told(2, 4), 0);
     }
 
     private static void count() { // 27
