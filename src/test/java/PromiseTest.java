@@ -2,32 +2,10 @@
  * Each promise of the document by hand: ordinary inputs, the edges that it names, wrong inputs. By the first
  * rule a MAN's WORD w by FOOD f sticks in GAP (w + 3f) modulo 10 and goes off in the fifth HOUR, 10 bad (at CHURCH 20).
  */
-public final class PromiseTest {
-    private static final int NONE = -1, BAD = -2, STATE = -3, FULL = -4;
-    private static final int MAN = 0, TIGHT = 1, OLD = 2, FLOSSER = 3, BISHOP = 4, CHILD = 5;
-
+public final class PromiseTest extends Given {
     private PromiseTest() { }
 
     private static void due(String call, long got, long want) { Check.due(call, got, want); }
-
-    /** People of these kinds, one after the other, each with NUMBER 4. */
-    private static AWordStuck of(int... kinds) {
-        AWordStuck x = new AWordStuck();
-        for (int kind : kinds) x.man(kind, 4);
-        return x;
-    }
-
-    private static AWordStuck withRule(String text, int... kinds) {
-        AWordStuck x = of(kinds);
-        due("text '" + text + "'", Check.read(x, text), 1);
-        x.force(1);
-        return x;
-    }
-
-    private static void row(AWordStuck x, int sheet, int sort, int... v) {
-        x.sheet(sheet, sort, v.length);
-        for (int i = 0; i < v.length; i++) x.cell(sheet, i, v[i]);
-    }
 
     public static void main(String[] args) {
         constants();
@@ -174,15 +152,6 @@ public final class PromiseTest {
         due("7 no room", Check.read(x, "no text"), FULL);
         due("7 tape stays", x.count(4), 7);
         due("7 a fault took no number", x.force(5), 0);
-    }
-
-    /** What sticks tells, by the GAP of a MAN (below 10) and of a CHILD (tens). */
-    private static int telling(String e, int word, int food) {
-        AWordStuck x = of(MAN, CHILD);
-        int text = Check.read(x, "sticks " + e + ";lasts 5;shames 10;");
-        due("text of " + e, text, 1);
-        x.force(text);
-        return x.say(1, word, food) * 10 + x.say(0, word, food);
     }
 
     private static void grammar() { // 7
