@@ -202,6 +202,10 @@ public final class PromiseEdgesTest extends Edges {
         due("by a FAULT, too", Check.read(x, "sticks"), -106);
         due("it is empty then", x.count(4), 0);
         due("a FAULT takes no number", Check.read(x, PLAIN), 2);
+        AWordStuck half = of(MAN);
+        Check.read(half, "sticks 1+2;lasts 3 lasts");
+        half.force(Check.read(half, "sticks 7;lasts 3;shames 3;"));
+        due("nothing is left of one with a FAULT", half.say(0, 0, 0), 7);
         due("the sixth", Check.read(x, PLAIN) + Check.read(x, PLAIN) + Check.read(x, PLAIN), 12);
         due("its TEXTS stay as they were", sixTexts().force(1), 0);
         says("-100 less the place of its FAULT.");
@@ -629,6 +633,9 @@ public final class PromiseEdgesTest extends Edges {
         int some = 0;
         while (hits(4, some, 20) != 12) some++;
         due("12 of 20: 3 of 5", chanceOf(4, some, 20), 305);
+        int even = 0;
+        while (hits(4, even, 20) != 14) even++;
+        due("14 of 20: 7 of 10", chanceOf(4, even, 20), 710);
         int odd = 0;
         while (hits(4, odd, 19) != 12) odd++;
         due("12 of 19", chanceOf(4, odd, 19), 1219);

@@ -221,21 +221,22 @@ public final class TermEdgesTest extends Edges {
     }
 
     private static void takes() {
-        int[] v = {0, 1, 9, 10, 11, 98, 99};
+        int[] v = {0, 1, 8, 9, 10, 11, 18, 99};
         says("TAKES (in which GAP it would stick, sticks telling v 0 .. 99): MAN: v modulo 10;");
-        takes(MAN, v, 0, 1, 9, 0, 1, 8, 9);
+        takes(MAN, v, 0, 1, 8, 9, 0, 1, 8, 9);
         due("v 100 is 99", takes(MAN, 100), 9);
         due("v -1 is 0", takes(MAN, -1), 0);
         says("TIGHT: half (cut) of a MAN's;");
-        takes(TIGHT, v, 0, 0, 4, 0, 0, 4, 4);
+        takes(TIGHT, v, 0, 0, 4, 4, 0, 0, 4, 4);
         says("OLD: as a MAN;");
-        takes(OLD, v, 0, 1, 9, 0, 1, 8, 9);
+        takes(OLD, v, 0, 1, 8, 9, 0, 1, 8, 9);
         says("FLOSSER: as a TIGHT, but NONE, if v is odd;");
-        takes(FLOSSER, v, 0, NONE, NONE, 0, NONE, 4, NONE);
+        takes(FLOSSER, v, 0, NONE, 4, NONE, 0, NONE, 4, NONE);
+        due("v 98", takes(FLOSSER, 98), 4);
         says("BISHOP: 9 less an OLD's;");
-        takes(BISHOP, v, 9, 8, 0, 9, 8, 1, 0);
+        takes(BISHOP, v, 9, 8, 1, 0, 9, 8, 1, 0);
         says("CHILD: v by 10 (cut).");
-        takes(CHILD, v, 0, 0, 0, 1, 1, 9, 9);
+        takes(CHILD, v, 0, 0, 0, 0, 1, 1, 1, 9);
     }
 
     private static void holds() {
@@ -441,6 +442,10 @@ public final class TermEdgesTest extends Edges {
         due("not of 7 is 0", telling("not 7", 0, 0), 0);
         due("-1 is true", telling("-1 and -1", 0, 0), 1);
         due("0 is not", telling("0 or 0", 0, 0), 0);
+        due("or of 0 is 0", telling("(0 or 0)+7", 0, 0), 7);
+        due("and of 0 is 0", telling("(7 and 0)+7", 0, 0), 7);
+        due("< is 0", telling("(2<1)+7", 0, 0), 7);
+        due("= is 0", telling("(2=1)+7", 0, 0), 7);
     }
 
     private static void faults() {
@@ -463,6 +468,12 @@ public final class TermEdgesTest extends Edges {
         due("one letter less", faultOf("wor"), 0);
         due("one letter more", faultOf("words"), 0);
         due("one letter", faultOf("a"), 0);
+        due("another first letter", faultOf("gord"), 0);
+        due("another last letter", faultOf("worz"), 0);
+        due("z at last", faultOf("wordz"), 0);
+        due("behind not", faultOf("not foo"), 4);
+        due("behind -", faultOf("-foo"), 1);
+        due("behind (", faultOf("(foo"), 1);
         due("as long as can be", fault("z".repeat(160)), 0);
         says("a NUMBER that is too long,");
         due("five digits", faultOf("10000"), 0);
@@ -487,6 +498,8 @@ public final class TermEdgesTest extends Edges {
         due("four ( , a not and a -", faultOf("((((not -1))))"), 8);
         due("a - ahead of a TERM is none", faultOf("(((((1-1)))))"), NONE);
         due("a ( ends with its )", faultOf("(((((1)))))+(((((1)))))"), NONE);
+        String level = "0or 1and 0<0+1*";
+        due("all signs wait in five (", telling((level + "(").repeat(5) + level + "1)))))", 0, 0), 1);
         due("a ( is open behind *", faultOf("(((((1*(1))))))"), 7);
         due("a - ends with its ONE", faultOf("-----1*-----1"), NONE);
         due("a - ends with its ( )", faultOf("-(1)+(((((1)))))"), NONE);
@@ -520,6 +533,12 @@ public final class TermEdgesTest extends Edges {
         due("hour 999", x.say(0, 0, 0), 9);
         due("number of sticks", by("number", "1", "1", MAN).say(0, 0, 0), 4);
         due("number of lasts", heldBy("number", 9, 5), 4);
+        AWordStuck late = by("0", "50-hour*5", "0", MAN);
+        late.fill(0, 0, 0, 0);
+        due("hour of lasts: 5 in HOUR 9, the tenth", late.off(0, 0, 60), 9);
+        AWordStuck old = by("0", "5+10*(stuck=5)", "0", MAN);
+        old.fill(0, 0, 0, 0);
+        due("stuck of lasts: 15 when it is 5", old.off(0, 0, 60), 5);
         due("gap of sticks", by("gap+3", "1", "1", MAN).say(0, 0, 0), 3);
         due("gap 0 of lasts", heldBy("gap+7", 0, 5), 7);
         due("gap 9 of lasts", heldBy("gap+7", 9, 5), 16);
@@ -627,6 +646,7 @@ public final class TermEdgesTest extends Edges {
         due("nothing is stuck", of(MAN, MAN).kiss(0, 1), 0);
         AWordStuck x = of(MAN, CHILD);
         for (int gap = 0; gap < 10; gap++) x.fill(0, gap, gap, 99);
+        for (int gap = 0; gap < 10; gap++) x.fill(1, gap, NONE, 77);
         due("all ten", x.kiss(0, 1), 10);
         for (int gap = 0; gap < 10; gap++) due("WORD " + gap, x.told(1, 10 + gap), gap);
         for (int gap = 0; gap < 10; gap++) due("HOURS of " + gap, x.told(1, 20 + gap), 0);
@@ -831,8 +851,11 @@ public final class TermEdgesTest extends Edges {
         due("the last and the first", last.kissing(60, 0), 40);
         AWordStuck young = of(MAN, MAN);
         young.fill(0, 9, 0, 4);
+        young.fill(0, 8, 0, 0);
+        young.fill(1, 9, NONE, 77);
         due("for 0 HOURS then: later", young.kissing(4, 0), 1);
         due("SHAME then", young.kissing(4, 1), 0);
+        young.floss(0, 8);
         due("for 0 HOURS then: all the same", young.kissing(5, 0), NONE);
         AWordStuck full = of(MAN, CHILD);
         full.fill(0, 0, 0, 0);
@@ -852,6 +875,12 @@ public final class TermEdgesTest extends Edges {
         due("n 0", stuck(MAN, 1, 99).church(0, 0), 0);
         due("0 is the one not to be", stuck(MAN, 1, 99).church(1, 0), 1);
         due("SHAME then", stuck(MAN, 1, 99).church(1, 1), 10);
+        AWordStuck z = by("0", "3", "hour*10+stuck+gap*5", MAN, CHILD);
+        z.fill(0, 0, 0, 0);
+        z.fill(0, 1, 0, 48);
+        z.fill(1, 2, 0, 0);
+        due("HOUR, GAP and stuck as they are then: 23 in 2, 54 in 0", z.church(60, 1), 23 + 54);
+        due("the first that is free", z.church(60, 0), 1);
         AWordStuck x = stuck(MAN, 1, 99);
         x.set(1, 0, FULL_DAY);
         due("CHURCH as it is does not matter", x.church(1, 1), 10);
@@ -880,6 +909,13 @@ public final class TermEdgesTest extends Edges {
 
     private static int planned(int... rows) { return planned(of(MAN, CHILD), rows); }
 
+    /** A MAN whose WORD goes off in the next HOUR, and a CHILD. */
+    private static AWordStuck kissed() {
+        AWordStuck x = withRule("sticks 0;lasts 1;shames 10;", MAN, CHILD);
+        x.fill(0, 0, 0, 0);
+        return x;
+    }
+
     private static void plan() {
         says("A PLAN: a SHEET tells rows of four: 0 (one says), who, WORD, FOOD;");
         due("no row", planned(), 0);
@@ -896,6 +932,8 @@ public final class TermEdgesTest extends Edges {
         due("WORD 16", planned(0, 0, 16, 0), BAD);
         due("FOOD -1", planned(0, 0, 0, -1), BAD);
         due("FOOD 10", planned(0, 0, 0, 10), BAD);
+        due("WORD 5 by FOOD 0, FOOD 1, FOOD 2", planned(0, 0, 5, 0, 0, 0, 5, 1, 0, 0, 5, 2), 3);
+        due("WORDS 0, 1, 2 by FOOD 3", planned(0, 0, 0, 3, 0, 0, 1, 3, 0, 0, 2, 3), 3);
         due("heard at once", planned(0, 0, 0, 0, 0, 0, 0, 0), 1);
         says("1 (one flosses), who, GAP, 0;");
         due("the first GAP", planned(stuck(MAN, 10, 0), 1, 0, 0, 0), 9);
@@ -905,7 +943,10 @@ public final class TermEdgesTest extends Edges {
         due("GAP 10", planned(1, 0, 10, 0), BAD);
         due("nobody", planned(1, 2, 0, 0), BAD);
         due("not 0 at last", planned(1, 0, 0, 1), BAD);
+        due("GAPS 3, 4 of ten", planned(stuck(MAN, 10, 0), 1, 0, 3, 0, 1, 0, 4, 0), 8);
         says("2 (one kisses), who, whom, 0;");
+        due("a CHILD has it then", planned(kissed(), 2, 0, 1, 0, 3, 0, 0, 0), 0);
+        due("a CHILD kisses", planned(kissed(), 2, 1, 0, 0, 3, 0, 0, 0), 1000);
         due("the first the last", planned(2, 0, 1, 0), 0);
         due("the last the first", planned(2, 1, 0, 0), 0);
         due("one and the same", planned(2, 0, 0, 0), BAD);
@@ -986,6 +1027,15 @@ public final class TermEdgesTest extends Edges {
         due("no KIND", none.tells(0, 0, 1), 0);
         due("no NUMBER", none.tells(0, 0, 2), 0);
         due("no TEXT", none.tells(0, 0, 3), 0);
+        AWordStuck six = of(MAN);
+        for (int i = 1; i < 6; i++) Check.read(six, "sticks 1;lasts 2" + i + ";shames 1;");
+        six.fill(0, 9, 0, 0);
+        row(six, 0, 0, -1, -1, -1, -1, -1, -1, -1, -1, -1, 24);
+        due("TEXT 5, THE RULE being 0", six.tells(0, 0, 3), 1 << 5);
+        six.force(5);
+        six.cell(0, 9, 4);
+        due("TEXT 0, THE RULE being 5", six.tells(0, 0, 3), 1);
+        due("by THE RULE no NUMBER", six.tells(0, 0, 2), 0);
         AWordStuck x = of(TIGHT);
         x.fill(0, 9, 0, 0);
         row(x, 0, 0, -1, -1, -1, -1, -1, -1, -1, -1, -1, 13);
@@ -1005,6 +1055,9 @@ public final class TermEdgesTest extends Edges {
         due("WORD 0", w.tells(0, 0, 19), 1);
         w.cell(0, 9, 1);
         due("no WORD", w.tells(0, 0, 19), 0);
+        w.force(Check.read(w, "sticks 0;lasts 55+word;shames 0;"));
+        w.cell(0, 9, -1);
+        due("not in 60: WORDS 6 .. 15", w.tells(0, 0, 19), 0xFFC0);
         due("nothing is there: no WORD", w.tells(0, 0, 10), 0);
         AWordStuck a = by("0", "61", "0", MAN);
         a.fill(0, 9, 7, 5);
@@ -1126,7 +1179,7 @@ public final class TermEdgesTest extends Edges {
         x.floss(1, 9);
         x.force(0);
         x.man(CHILD, 0);
-        x.set(0, 0, 0);
+        x.set(0, 0, 500);
         x.live();
         due("back", x.back(), 2);
         due("THE HOUR", x.told(0, 0), 1);
