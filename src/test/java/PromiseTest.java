@@ -146,6 +146,12 @@ public final class PromiseTest extends Given {
         due("7 after a fault", Check.read(y, "sticks 7;lasts 3;shames 3;"), 1);
         y.force(1);
         due("7 nothing is left of the fault", y.say(0, 0, 0), 7);
+        AWordStuck z = of(MAN);
+        due("7 a fault behind all three", Check.read(z, "sticks 1;lasts 1;shames -1)"), -126);
+        due("7 after it", Check.read(z, "sticks 1;lasts 1;shames 9;"), 1);
+        z.force(1);
+        z.say(0, 0, 0);
+        due("7 nothing is left of what was longer", z.run(1, 0), 9);
         for (int i = 1; i <= 5; i++) due("7 text", Check.read(x, "sticks 1;lasts 1;shames 1;"), i);
         due("7 tape is empty then, too", x.count(4), 0);
         due("7 texts", x.count(3), 6);
